@@ -223,6 +223,11 @@ public final class TextsTest {
         perform("meter 0", -106);
         perform("meter 1000", -106);
         perform("meter 010", -106);
+        perform("meter 4294967301", -106);
+        perform("set a 4294967301", -106);
+        perform("source 18446744073709551621", -107);
+        perform("source 111111111111111111111111111111111", -107);
+        perform("set a\u00a05", -104);
         perform("meter 10 0", -108);
         perform("short", -105);
         perform("mend", -104);
