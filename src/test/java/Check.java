@@ -12,6 +12,15 @@ final class Check {
         }
     }
 
+    void dueText(String call, String got, String want) {
+        if (got.equals(want)) {
+            right++;
+        } else {
+            wrong++;
+            System.out.println(call + "\n  told " + got + "\n  due  " + want);
+        }
+    }
+
     /** A fraction that is told as two numbers. */
     void dueFraction(String call, long gotUpper, long gotLower, long upper, long lower) {
         due(call + " upper", gotUpper, upper);
