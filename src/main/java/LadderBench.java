@@ -452,12 +452,13 @@ public final class LadderBench {
             return end;
         }
 
-        boolean spells(int start, int end, String word) {
-            if (end - start != word.length()) {
+        /** Whether the text up to an end is this word. */
+        boolean startsWith(String word, int end) {
+            if (end != word.length() || end > length) {
                 return false;
             }
-            for (int i = start; i < end; i++) {
-                if (characters[i] != word.charAt(i - start)) {
+            for (int i = 0; i < end; i++) {
+                if (characters[i] != word.charAt(i)) {
                     return false;
                 }
             }
@@ -797,22 +798,22 @@ public final class LadderBench {
         }
 
         private static int findAction(Line text, int end) {
-            if (text.spells(0, end, "set")) {
+            if (text.startsWith("set", end)) {
                 return SET;
             }
-            if (text.spells(0, end, "open")) {
+            if (text.startsWith("open", end)) {
                 return OPEN_ARM;
             }
-            if (text.spells(0, end, "short")) {
+            if (text.startsWith("short", end)) {
                 return SHORT_ARM;
             }
-            if (text.spells(0, end, "mend")) {
+            if (text.startsWith("mend", end)) {
                 return MEND_ARM;
             }
-            if (text.spells(0, end, "source")) {
+            if (text.startsWith("source", end)) {
                 return SOURCE;
             }
-            return text.spells(0, end, "meter") ? METER : NOWHERE;
+            return text.startsWith("meter", end) ? METER : NOWHERE;
         }
 
         /** The number of one to three digits without zeros in front, or NOWHERE. */

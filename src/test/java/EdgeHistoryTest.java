@@ -17,6 +17,7 @@ public final class EdgeHistoryTest {
         theSnapshotStays();
         theSnapshotOfNoNetwork();
         restoreIsAnAct();
+        anotherReadingAtTheSameNumber();
         theTextIsInNoState();
         fiveHundredAndTwelveCalls();
         CHECK.finish("EdgeHistoryTest");
@@ -282,6 +283,25 @@ public final class EdgeHistoryTest {
         LadderBench bench = Scenes.rich();
         bench.restore();
         CHECK.due("the history is not in the snapshot", bench.count(8), 5);
+    }
+
+    /** undo() and restore() bring back a reading where another one has been noted since. */
+    private static void anotherReadingAtTheSameNumber() {
+        LadderBench bench = Check.benchOf("a+b");
+        bench.note(0);
+        bench.note(0);
+        bench.keep();
+        bench.undo();
+        bench.undo();
+        CHECK.due("12 volts as the first reading", bench.note(2), 1);
+        CHECK.due("restore", bench.restore(), 3);
+        CHECK.dueFraction("the one of the snapshot", bench.noted(0, 0), bench.noted(0, 1), 40, 7);
+        CHECK.due("its times", bench.noted(0, 2), 2);
+        CHECK.due("undo of restore", bench.undo(), 2);
+        CHECK.dueFraction("the one that was", bench.noted(0, 0), bench.noted(0, 1), 12, 1);
+        CHECK.due("its times", bench.noted(0, 2), 1);
+        CHECK.due("a new one again", bench.note(0), 1);
+        CHECK.due("two readings", bench.count(5), 2);
     }
 
     private static void theTextIsInNoState() {

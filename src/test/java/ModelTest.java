@@ -4,6 +4,8 @@ import java.util.Random;
 public final class ModelTest {
     private static final int RUNS = 3000;
     private static final int CALLS = 512;
+    /** What one step and tellAll() call at most, so that no object is called more than 512 times. */
+    private static final int TELLING = 130;
     private static final int[] HARD_VALUES = {99, 98, 97, 95, 89, 83, 79, 73};
 
     private final Check check;
@@ -28,7 +30,7 @@ public final class ModelTest {
     }
 
     private void run() {
-        while (calls < CALLS - 90) {
+        while (calls < CALLS - TELLING) {
             step();
         }
         tellAll();
